@@ -67,6 +67,7 @@ public final class PromisesTest {
         layTies();
         change();
         order();
+        orderNine();
         orderYoung();
         ordered();
         rehearse();
@@ -617,6 +618,9 @@ public final class PromisesTest {
         due("22 left if alike", x.clear(), 6 + 13);
         x.off(0);
         due("22 one off", x.clear(), 13);
+        x.off(2);
+        x.stand(2, 2, 12);
+        due("22 right, one behind the other", x.clear(), 5 + 8);
     }
 
     private static void lay() {
@@ -709,6 +713,25 @@ public final class PromisesTest {
         for (int i = 0; i < 4; i++) {
             due("25 by numbers " + i, x.ordered(i), i);
         }
+    }
+
+    /** Nine songs, each sung by one choir more than the one before: by numbers, or else back. */
+    private static void orderNine() {
+        SongField x = new SongField();
+        for (int i = 0; i < 9; i++) {
+            x.choir(0, 0, 10 * i + 1, 0);
+            x.song(1, 8, 8 - i, 1);
+        }
+        for (int i = 0; i < 9; i++) {
+            rule(x, "bar * if size>" + (10 * i + 1) + " and hard=" + (8 - i));
+        }
+        // from song i to song i + 1 choir i + 1 comes, of 10 * i + 11 singers: 2 * i + 3
+        due("25 nine", x.order(511), 3 + 5 + 7 + 9 + 11 + 13 + 15 + 17);
+        for (int i = 0; i < 9; i++) {
+            due("25 nine at " + i, x.ordered(i), i);
+        }
+        due("26 nine and no more", x.ordered(9), -1);
+        due("25 no tenth", x.order(1023), -2);
     }
 
     private static void orderYoung() {
