@@ -165,16 +165,12 @@ public final class SongField {
     }
 
     public int rule() {
-        boolean read = tape.readRule();
-        if (!read) {
-            tape.length = 0;
-            return FAULT_FROM - tape.at;
-        }
         if (rules.number >= RULES) {
             return FULL;
         }
+        boolean read = tape.readRule();
         tape.length = 0;
-        return rules.add(tape);
+        return read ? rules.add(tape) : FAULT_FROM - tape.at;
     }
 
     public int may(int choir, int song) {
@@ -1251,8 +1247,14 @@ public final class SongField {
             return bedsOf[town] - taken(town);
         }
 
+        /** A CHOIR does not stand in its own way: the BEDS that it has there are free for it. */
+        private int bedsFor(int choir, int town) {
+            int own = townOf[choir] == town ? choirs.size[choir] : 0;
+            return freeBeds(town) + own;
+        }
+
         boolean canTake(int town, int choir) {
-            return town != choirs.town[choir] && freeBeds(town) >= choirs.size[choir];
+            return town != choirs.town[choir] && bedsFor(choir, town) >= choirs.size[choir];
         }
 
         int tightestTown(int choir) {

@@ -535,6 +535,9 @@ public final class ModelTest {
         }
 
         int rule() {
+            if (rules.size() == 12) {
+                return -4;
+            }
             Matcher whole = RULE.matcher(tape);
             if (!whole.matches()) {
                 int fault = 0;
@@ -543,9 +546,6 @@ public final class ModelTest {
                 }
                 tape = "";
                 return -10 - fault;
-            }
-            if (rules.size() == 12) {
-                return -4;
             }
             Rule r = new Rule();
             r.bars = whole.group(1).equals("bar");
@@ -954,7 +954,7 @@ public final class ModelTest {
                 return -5;
             }
             Choir h = choirs.get(c);
-            if (town >= 0 && (town == h.town || free(town) < h.size())) {
+            if (town >= 0 && town != h.sleeps && (town == h.town || free(town) < h.size())) {
                 return -3;
             }
             int was = h.sleeps;

@@ -52,6 +52,8 @@ public final class PromisesTest {
         rule();
         faults();
         ruleFull();
+        ruleFullWithoutTape();
+        ruleFaultsAheadOfFull();
         may();
         tests();
         why();
@@ -75,6 +77,7 @@ public final class PromisesTest {
         whole();
         beds();
         sleep();
+        sleepAgain();
         bed();
         march();
         leave();
@@ -392,9 +395,33 @@ public final class PromisesTest {
         due("12 full changes nothing", x.count(8), 5);
         due("12 full again", x.rule(), -4);
         feedText(x, "x");
-        due("12 the fault is told ahead of full", x.rule(), -15);
-        due("12 the tape is empty then", x.count(8), 0);
+        due("12 full, where a fault would be too", x.rule(), -4);
+        due("12 the tape stays with its fault", x.count(8), 6);
+        due("12 the next byte comes behind it", x.feed(0, 1), 7);
         due("12 count stays", x.count(3), 12);
+        x.choir(0, 0, 1, 0);
+        x.song(63, 8, 0, 1);
+        due("12 none of the refused was read", x.why(0, 0), 11);
+        due("12 nor does it bar", x.may(0, 0), 0);
+    }
+
+    private static void ruleFullWithoutTape() {
+        SongField x = new SongField();
+        for (int i = 0; i < 12; i++) {
+            due("12 up to 12", rule(x, "bar 2"), i);
+        }
+        due("12 full with an empty tape", x.rule(), -4);
+        due("12 still empty", x.count(8), 0);
+    }
+
+    private static void ruleFaultsAheadOfFull() {
+        SongField x = new SongField();
+        for (int i = 0; i < 11; i++) {
+            rule(x, "let *");
+        }
+        due("12 with 11 rules a fault is told", rule(x, "let x"), -14);
+        due("12 and empties the tape", x.count(8), 0);
+        due("12 the twelfth", rule(x, "let *"), 11);
     }
 
     private static void may() {
@@ -868,6 +895,24 @@ public final class PromisesTest {
         due("31 nowhere", x.sleep(1, -1), 1);
         due("31 where", x.about(0, 5), 2);
         due("31 count", x.count(9), 1);
+    }
+
+    private static void sleepAgain() {
+        SongField x = withChoirs(5, 6);
+        x.beds(1, 5);
+        x.beds(2, 11);
+        x.sleep(0, 1);
+        due("31 again with no bed free beside its own", x.sleep(0, 1), 1);
+        due("31 stays there", x.about(0, 5), 1);
+        due("31 its beds are taken once", x.beds(1, 4), -3);
+        due("31 no more than once", x.beds(1, 5), 5);
+        due("31 its own beds are free for none else", x.sleep(1, 1), -3);
+        x.sleep(0, 2);
+        x.sleep(1, 2);
+        due("31 again beside another one", x.sleep(0, 2), 2);
+        due("31 again, the other one", x.sleep(1, 2), 2);
+        due("31 no more sleep somewhere", x.count(9), 2);
+        due("31 its own still", x.sleep(0, 0), -3);
     }
 
     private static void bed() {
