@@ -9,30 +9,9 @@ public final class PromisesTest {
         }
     }
 
-    /** The text on the tape, 8 bytes a call; answers what the last feed answered. */
-    private static int feedText(SongField x, String text) {
-        int last = 0;
-        for (int i = 0; i < text.length(); i += 8) {
-            int n = Math.min(8, text.length() - i);
-            long w = 0;
-            for (int k = 0; k < n; k++) {
-                w = w << 8 | text.charAt(i + k);
-            }
-            last = x.feed(w, n);
-        }
-        return last;
-    }
-
-    private static int rule(SongField x, String text) {
-        feedText(x, text);
-        return x.rule();
-    }
-
     private static SongField withChoirs(int... sizes) {
         SongField x = new SongField();
-        for (int size : sizes) {
-            x.choir(0, 0, size, 0);
-        }
+        Festival.choirs(sizes).tell(x);
         return x;
     }
 
@@ -357,7 +336,7 @@ public final class PromisesTest {
             "bar 4 if day<3 and mark=0", "let * if size>999 and day>0",
         };
         for (int i = 0; i < right.length; i++) {
-            due("12 " + right[i], rule(x, right[i]), i);
+            due("12 " + right[i], Festival.rule(x, right[i]), i);
             due("12 the tape is empty then", x.count(8), 0);
         }
         due("12 count", x.count(3), right.length);
@@ -380,7 +359,7 @@ public final class PromisesTest {
         };
         for (String one : faulty) {
             String text = one.replace("|", "");
-            due("12 fault of " + one, rule(x, text), -10 - one.indexOf('|'));
+            due("12 fault of " + one, Festival.rule(x, text), -10 - one.indexOf('|'));
             due("12 the tape is empty too", x.count(8), 0);
         }
         due("12 none is a rule", x.count(3), 0);
@@ -389,12 +368,12 @@ public final class PromisesTest {
     private static void ruleFull() {
         SongField x = new SongField();
         for (int i = 0; i < 12; i++) {
-            due("12 up to 12", rule(x, "let *"), i);
+            due("12 up to 12", Festival.rule(x, "let *"), i);
         }
-        due("12 full", rule(x, "bar *"), -4);
+        due("12 full", Festival.rule(x, "bar *"), -4);
         due("12 full changes nothing", x.count(8), 5);
         due("12 full again", x.rule(), -4);
-        feedText(x, "x");
+        Festival.feedText(x, "x");
         due("12 full, where a fault would be too", x.rule(), -4);
         due("12 the tape stays with its fault", x.count(8), 6);
         due("12 the next byte comes behind it", x.feed(0, 1), 7);
@@ -408,7 +387,7 @@ public final class PromisesTest {
     private static void ruleFullWithoutTape() {
         SongField x = new SongField();
         for (int i = 0; i < 12; i++) {
-            due("12 up to 12", rule(x, "bar 2"), i);
+            due("12 up to 12", Festival.rule(x, "bar 2"), i);
         }
         due("12 full with an empty tape", x.rule(), -4);
         due("12 still empty", x.count(8), 0);
@@ -417,11 +396,11 @@ public final class PromisesTest {
     private static void ruleFaultsAheadOfFull() {
         SongField x = new SongField();
         for (int i = 0; i < 11; i++) {
-            rule(x, "let *");
+            Festival.rule(x, "let *");
         }
-        due("12 with 11 rules a fault is told", rule(x, "let x"), -14);
+        due("12 with 11 rules a fault is told", Festival.rule(x, "let x"), -14);
         due("12 and empties the tape", x.count(8), 0);
-        due("12 the twelfth", rule(x, "let *"), 11);
+        due("12 the twelfth", Festival.rule(x, "let *"), 11);
     }
 
     private static void may() {
@@ -442,16 +421,16 @@ public final class PromisesTest {
         due("13 not there", x.may(2, 2), 1);
         due("13 kind ahead of voice", x.may(1, 3), 2);
         due("13 voice", x.may(0, 3), 3);
-        rule(x, "bar *");
+        Festival.rule(x, "bar *");
         due("13 barred", x.may(0, 0), 4);
         due("13 voice ahead of rule", x.may(0, 3), 3);
         due("13 kind ahead of rule", x.may(0, 1), 2);
-        rule(x, "let 0");
+        Festival.rule(x, "let 0");
         due("13 let by the greatest number", x.may(0, 0), 0);
         due("13 still barred", x.may(1, 1), 4);
         x.day(1);
         due("13 there now, barred", x.may(2, 2), 4);
-        rule(x, "let * if day=1");
+        Festival.rule(x, "let * if day=1");
         due("13 let again", x.may(2, 2), 0);
         x.day(2);
         due("13 a rule holds now", x.may(2, 2), 4);
@@ -479,7 +458,7 @@ public final class PromisesTest {
         x.judge(1);
         x.mark(0, 0, 60);
         x.mark(1, 0, 61);
-        rule(x, "bar * if mark=60");
+        Festival.rule(x, "bar * if mark=60");
         due("13 mark is the mean, cut", x.may(0, 0), 4);
         x.mark(1, 0, 62);
         due("13 the mean now", x.may(0, 0), 0);
@@ -489,7 +468,7 @@ public final class PromisesTest {
         SongField x = new SongField();
         x.choir(0, 3, 1020405, 0);
         x.song(1, 1, 5, 1);
-        rule(x, "let * if " + test);
+        Festival.rule(x, "let * if " + test);
         return x.why(0, 0);
     }
 
@@ -499,9 +478,9 @@ public final class PromisesTest {
         x.choir(4, 0, 1, 3);
         x.song(1, 8, 0, 1);
         due("14 no rule", x.why(0, 0), -1);
-        rule(x, "bar 0");
-        rule(x, "let *");
-        rule(x, "bar 4");
+        Festival.rule(x, "bar 0");
+        Festival.rule(x, "let *");
+        Festival.rule(x, "bar 4");
         due("14 the greatest", x.why(0, 0), 1);
         due("14 of a choir that is not there", x.why(1, 0), 2);
         due("14 no choir", x.why(2, 0), -1);
@@ -705,7 +684,7 @@ public final class PromisesTest {
         due("24 one of them", x.change(0, 1), 3);
         due("24 the other way", x.change(1, 0), 3);
         due("24 all", x.change(0, 2), 1 + 2 + 3);
-        rule(x, "bar 1");
+        Festival.rule(x, "bar 1");
         due("24 who may, now", x.change(0, 1), 0);
     }
 
@@ -735,7 +714,7 @@ public final class PromisesTest {
         for (int i = 0; i < 4; i++) {
             due("25 the lesser at first " + i, x.ordered(i), three[i]);
         }
-        rule(x, "bar *");
+        Festival.rule(x, "bar *");
         due("25 nobody sings, by numbers", x.order(15), 0);
         for (int i = 0; i < 4; i++) {
             due("25 by numbers " + i, x.ordered(i), i);
@@ -750,7 +729,7 @@ public final class PromisesTest {
             x.song(1, 8, 8 - i, 1);
         }
         for (int i = 0; i < 9; i++) {
-            rule(x, "bar * if size>" + (10 * i + 1) + " and hard=" + (8 - i));
+            Festival.rule(x, "bar * if size>" + (10 * i + 1) + " and hard=" + (8 - i));
         }
         // from song i to song i + 1 choir i + 1 comes, of 10 * i + 11 singers: 2 * i + 3
         due("25 nine", x.order(511), 3 + 5 + 7 + 9 + 11 + 13 + 15 + 17);
@@ -779,7 +758,7 @@ public final class PromisesTest {
         due("25 joint ones are not young", x.order(12), 22);
         due("25 state", x.order(3), -3);
         due("25 what was ordered stays", x.ordered(1), 3);
-        rule(x, "bar 3");
+        Festival.rule(x, "bar 3");
         due("25 if none may, none tires", x.order(3), 0);
     }
 
@@ -982,8 +961,8 @@ public final class PromisesTest {
         x.song(1, 8, 0, 1);
         x.judge(0);
         x.judge(1);
-        rule(x, "let *");
-        feedText(x, "bar");
+        Festival.rule(x, "let *");
+        Festival.feedText(x, "bar");
         x.day(1);
         x.stand(0, 0, 0);
         x.march(0);
