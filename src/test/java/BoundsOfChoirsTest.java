@@ -194,7 +194,9 @@ public final class BoundsOfChoirsTest {
         for (int parts : taken) {
             b.answers(three, x -> x.choir(5, 0, 0, parts), 3);
         }
-        int[] ofNone = {3, 15, 16 + 3, 16 * 3, 16 * 3 + 1, 16 * 3 + 3, 255, 256, 257, -1, -15, -16, LEAST, LEAST + 1, MOST};
+        int[] ofNone = {
+            3, 15, 16 + 3, 16 * 3, 16 * 3 + 1, 16 * 3 + 3, 255, 256, 257, -1, -15, -16, LEAST, LEAST + 1, MOST,
+        };
         for (int parts : ofNone) {
             b.refuses(three, x -> x.choir(5, 0, 0, parts), NONE);
         }
@@ -317,7 +319,10 @@ public final class BoundsOfChoirsTest {
         b.answers(Festival.EMPTY, x -> x.song(63, 15, 9, 30), 0);
         b.then(Festival.songs(8), x -> x.song(1, 1, 0, 1), 8, x -> x.count(1), 9);
         b.refuses(Festival.songs(9), x -> x.song(1, 1, 0, 1), FULL);
-        b.refuses(Festival.FULL, x -> x.song(63, 15, 9, 30), FULL);
+        Festival.Scene nine = Festival.choirs(1).and(Festival.songs(9)).and(Festival.rules("bar * if hard>0"));
+        b.refuses(nine, x -> x.song(63, 15, 9, 30), FULL);
+        b.refuses(nine, x -> x.song(63, 8, 9, 30), FULL);
+        b.refuses(nine, x -> x.song(2, 8, 0, 1), FULL);
         b.sentence(4, "BAD; FULL");
         b.refuses(Festival.FULL, x -> x.song(0, 1, 0, 1), BAD);
         b.refuses(Festival.FULL, x -> x.song(1, 16, 0, 1), BAD);
@@ -447,6 +452,13 @@ public final class BoundsOfChoirsTest {
         b.refuses(Festival.FULL, x -> x.scale(0, 1), NO_SCALE);
         b.answers(apart.and(x -> x.mark(1, 15, 10)), x -> x.scale(0, 1), 0);
         b.answers(apart.and(x -> x.mark(0, 14, 0)), x -> x.scale(0, 1), -20);
+        Festival.Scene first = Festival.choirs(1).and(x -> {
+            x.judge(1);
+            x.judge(2);
+            x.mark(0, 0, 30);
+        });
+        b.refuses(first, x -> x.scale(0, 1), NO_SCALE);
+        b.answers(first.and(x -> x.mark(1, 0, 20)), x -> x.scale(0, 1), 10);
     }
 
     /** MARKS of JUDGES 0 and 1 for CHOIRS 15, 14, 13. */

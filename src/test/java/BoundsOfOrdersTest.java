@@ -176,6 +176,22 @@ public final class BoundsOfOrdersTest {
         ordered(three, 3, 3, 0, 1);
         ordered(three, 6, 1, 1, 2);
         ordered(young(5, 4), 511, 16, 0, 5, 1, 6, 2, 7, 3, 8, 4);
+        // The same with the SONG between as SONG 0, and with SONGS 1 and 2 that must not follow each other.
+        Festival.Scene between = x -> {
+            x.choir(0, 0, 5, 0);
+            x.choir(1, 0, 6, 0);
+            x.song(3, 8, 0, 1);
+            x.song(1, 8, 0, 1);
+            x.song(2, 8, 0, 1);
+        };
+        ordered(between, 7, 3, 1, 0, 2);
+        Festival.Scene rest = x -> {
+            x.choir(3, 0, 5, 0);
+            x.song(1, 8, 0, 1);
+            x.song(8, 8, 0, 1);
+            x.song(8, 8, 0, 1);
+        };
+        ordered(rest, 7, 2, 1, 0, 2);
     }
 
     private static void orderLesserSong() {
@@ -251,22 +267,27 @@ public final class BoundsOfOrdersTest {
 
     private static void rehearseInAnotherHall() {
         b.sentence(27, "STATE: .. is in another HALL");
-        Festival.Scene busy = Festival.choirs(1, 1, 1).and(Festival.songs(2)).and(x -> x.rehearse(1, 7, 0, 3));
         for (int hall = 0; hall <= 3; hall++) {
-            int other = hall;
-            if (hall != 1) {
-                b.refuses(busy, x -> x.rehearse(other, 7, 0, 1), STATE);
-                b.refuses(busy, x -> x.rehearse(other, 7, 1, 2), STATE);
-                b.refuses(busy, x -> x.rehearse(other, 7, 1, 6), STATE);
-                b.answers(busy, x -> x.rehearse(other, 7, 0, 4), 1);
+            for (int other = 0; other <= 3; other++) {
+                inAnotherHall(hall, other);
             }
-            b.answers(busy, x -> x.rehearse(other, 6, 0, 7), 3);
-            b.answers(busy, x -> x.rehearse(other, 8, 1, 7), 3);
         }
         Festival.Scene ends = Festival.choirs(1).and(Festival.songs(1)).and(x -> x.rehearse(3, 23, 0, 1));
         b.refuses(ends, x -> x.rehearse(0, 23, 0, 1), STATE);
         b.answers(ends, x -> x.rehearse(0, 22, 0, 1), 1);
         b.answers(ends, x -> x.rehearse(3, 0, 0, 1), 1);
+    }
+
+    private static void inAnotherHall(int hall, int other) {
+        Festival.Scene busy = Festival.choirs(1, 1, 1).and(Festival.songs(2)).and(x -> x.rehearse(hall, 7, 0, 3));
+        if (hall != other) {
+            b.refuses(busy, x -> x.rehearse(other, 7, 0, 1), STATE);
+            b.refuses(busy, x -> x.rehearse(other, 7, 1, 2), STATE);
+            b.refuses(busy, x -> x.rehearse(other, 7, 1, 6), STATE);
+            b.answers(busy, x -> x.rehearse(other, 7, 0, 4), 1);
+        }
+        b.answers(busy, x -> x.rehearse(other, 6, 0, 7), 3);
+        b.answers(busy, x -> x.rehearse(other, 8, 1, 7), 3);
     }
 
     private static void rehearseHallFree() {
@@ -275,7 +296,8 @@ public final class BoundsOfOrdersTest {
         int[] hours = {0, 23};
         for (int hall : halls) {
             for (int hour : hours) {
-                Festival.Scene taken = Festival.choirs(1, 1).and(Festival.songs(2)).and(x -> x.rehearse(hall, hour, 0, 1));
+                Festival.Scene free = Festival.choirs(1, 1).and(Festival.songs(2));
+                Festival.Scene taken = free.and(x -> x.rehearse(hall, hour, 0, 1));
                 b.refuses(taken, x -> x.rehearse(hall, hour, 0, 1), STATE);
                 b.refuses(taken, x -> x.rehearse(hall, hour, 0, 2), STATE);
                 b.refuses(taken, x -> x.rehearse(hall, hour, 1, 2), STATE);
@@ -409,7 +431,9 @@ public final class BoundsOfOrdersTest {
                 }
             }
         }
-        Festival.Scene joint = Festival.choirs(1).and(x -> x.choir(0, 1, 1, 0)).and(x -> x.choir(5, 2, 0, 16)).and(x -> {
+        Festival.Scene joint = Festival.choirs(1).and(x -> {
+            x.choir(0, 1, 1, 0);
+            x.choir(5, 2, 0, 16);
             for (int town = 0; town < 8; town++) {
                 x.beds(town, 9);
             }
@@ -594,13 +618,14 @@ public final class BoundsOfOrdersTest {
 
     private static void gapBetweenTwo() {
         b.sentence(35, "and GAP between two");
-        Festival.Scene marching = Festival.choirs(1, 1, 1);
+        Festival.Scene three = Festival.choirs(1, 1, 1);
+        Festival.Scene marching = three.and(x -> x.march(0));
         int[] gaps = {0, 2, 9};
         for (int gap : gaps) {
-            b.then(marching, x -> x.gap(gap), 2, x -> x.count(7), 0);
-            b.then(marching.and(x -> x.march(0)), x -> x.gap(gap), 2, x -> x.count(7), 1);
-            b.then(marching.and(x -> x.march(0)).and(x -> x.march(1)), x -> x.gap(gap), 2, x -> x.count(7), 2 + gap);
-            b.then(marching.and(x -> x.march(0)).and(x -> x.march(1)), x -> x.gap(gap), 2, x -> x.march(2), 3 + 2 * gap);
+            b.then(three, x -> x.gap(gap), 2, x -> x.count(7), 0);
+            b.then(marching, x -> x.gap(gap), 2, x -> x.count(7), 1);
+            b.then(marching.and(x -> x.march(1)), x -> x.gap(gap), 2, x -> x.count(7), 2 + gap);
+            b.then(marching.and(x -> x.march(1)), x -> x.gap(gap), 2, x -> x.march(2), 3 + 2 * gap);
         }
     }
 

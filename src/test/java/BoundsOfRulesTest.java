@@ -33,6 +33,7 @@ public final class BoundsOfRulesTest {
         testOfSize();
         testOfDay();
         twoTests();
+        eachFieldBehindEach();
         why();
         vote();
         voteStays();
@@ -225,8 +226,9 @@ public final class BoundsOfRulesTest {
     private static void ruleTooLong() {
         b.sentence(12, "the place of the first byte with which none begins so");
         right(LONGEST);
-        faults(LONGEST + "| ", LONGEST + "|0", LONGEST + "| and day=1", LONGEST + "|\0", "let *|\0", "|" + (char) 236 + "et *",
-                LONGEST + "|" + "x".repeat(90), "let *|" + "*".repeat(115), "|" + "x".repeat(120));
+        faults(LONGEST + "| ", LONGEST + "|0", LONGEST + "| and day=1", LONGEST + "|\0", "let *|\0",
+                "|" + (char) 236 + "et *", LONGEST + "|" + "x".repeat(90), "let *|" + "*".repeat(115),
+                "|" + "x".repeat(120));
     }
 
     private static void mayNone() {
@@ -417,6 +419,27 @@ public final class BoundsOfRulesTest {
         b.answers(one.and(Festival.rules("let 1 if size=12 and day=0")), x -> x.why(0, 0), NONE);
         b.answers(one.and(Festival.rules("let * if size>11 and size<13")), x -> x.why(0, 0), 0);
         b.answers(one.and(Festival.rules("let * if size=12 and size=1", "let *")), x -> x.why(0, 0), 1);
+    }
+
+    private static void eachFieldBehindEach() {
+        b.sentence(14, "mark .. hard .. town .. size .. day: each behind a RULE of another one");
+        Festival.Scene unlike = x -> {
+            x.choir(0, 3, 4, 0);
+            x.song(1, 8, 5, 1);
+            x.judge(0);
+            x.mark(0, 0, 2);
+            x.day(1);
+        };
+        String[] fields = {"mark", "hard", "town", "size", "day"};
+        int[] values = {2, 5, 3, 4, 1};
+        for (int i = 0; i < 5; i++) {
+            for (int k = 0; k < 5; k++) {
+                String ahead = "let 5 if " + fields[i] + "=0 and " + fields[i] + "=0";
+                String last = fields[k] + "=" + values[k];
+                b.answers(unlike.and(Festival.rules(ahead, "bar 0 if " + last)), x -> x.why(0, 0), 1);
+                b.answers(unlike.and(Festival.rules(ahead, "bar 0 if day=1 and " + last)), x -> x.why(0, 0), 1);
+            }
+        }
     }
 
     private static void why() {

@@ -3,6 +3,13 @@ public final class BoundsOfStageTest {
     private static final int NONE = -1, BAD = -2, STATE = -3;
     private static final int LEAST = Integer.MIN_VALUE, MOST = Integer.MAX_VALUE;
     private static final Bounds b = new Bounds(17, 23);
+    /** Two in each of eight rows, at either end. */
+    private static final Festival.Scene SIXTEEN_STAND = Festival.FULL.and(x -> {
+        x.stage(8, 60);
+        for (int choir = 0; choir < 16; choir++) {
+            x.stand(choir, choir / 2, choir % 2 == 0 ? 0 : 59 - choir);
+        }
+    });
 
     public static void main(String[] args) {
         stageNumbers();
@@ -227,6 +234,10 @@ public final class BoundsOfStageTest {
             Festival.Scene two = stage(8, 20, 1, 1).and(stand(0, 3, 0)).and(x -> x.tall(1, 6));
             b.answers(two.and(stand(1, other, 19)), x -> x.well(0), row < 3 ? 0 : 1);
         }
+        b.answers(SIXTEEN_STAND, x -> x.well(15), 1);
+        b.answers(SIXTEEN_STAND.and(x -> x.tall(14, 6)), x -> x.well(15), 1);
+        b.answers(SIXTEEN_STAND.and(x -> x.tall(13, 6)), x -> x.well(15), 0);
+        b.answers(SIXTEEN_STAND.and(x -> x.tall(0, 6)), x -> x.well(15), 0);
         Festival.Scene gone = Festival.choirs(1, 1).and(stand(0, 1, 0)).and(x -> x.tall(1, 9));
         b.answers(gone, x -> x.well(0), 1);
         b.answers(gone.and(stand(1, 0, 0)).and(x -> x.off(1)), x -> x.well(0), 1);
@@ -271,15 +282,10 @@ public final class BoundsOfStageTest {
         b.answers(Festival.RICH.and(x -> x.off(0)), x -> x.clear(), 11);
         b.answers(Festival.RICH.and(x -> x.off(2)), x -> x.clear(), 13);
         b.answers(Festival.RICH.and(x -> x.off(7)), x -> x.clear(), 16);
-        Festival.Scene sixteen = Festival.FULL.and(x -> x.stage(8, 60)).and(x -> {
-            // Two in each row, at either end: 1 + 3 + .. + 15 at the left, 2 + 4 + .. + 16 at the right.
-            for (int choir = 0; choir < 16; choir++) {
-                x.stand(choir, choir / 2, choir % 2 == 0 ? 0 : 59 - choir);
-            }
-        });
-        b.answers(sixteen, x -> x.count(5), 16);
-        b.answers(sixteen, x -> x.clear(), 72);
-        b.answers(sixteen.and(x -> x.off(15)), x -> x.clear(), 64);
+        // 1 + 3 + .. + 15 at the left DOOR, 2 + 4 + .. + 16 at the right one
+        b.answers(SIXTEEN_STAND, x -> x.count(5), 16);
+        b.answers(SIXTEEN_STAND, x -> x.clear(), 72);
+        b.answers(SIXTEEN_STAND.and(x -> x.off(15)), x -> x.clear(), 64);
     }
 
     private static void layRow() {
@@ -317,6 +323,8 @@ public final class BoundsOfStageTest {
         b.refuses(one, x -> x.lay(0, 15), STATE);
         b.answers(one, x -> x.lay(0, 7), 6);
         b.answers(one.and(x -> x.off(3)), x -> x.lay(0, 15), 10);
+        b.refuses(Festival.choirs(1, 1).and(stand(0, 2, 9)), x -> x.lay(0, 1), STATE);
+        b.refuses(Festival.choirs(1, 1).and(stand(0, 2, 9)), x -> x.lay(0, 3), STATE);
     }
 
     private static void layNotThere() {
@@ -333,6 +341,7 @@ public final class BoundsOfStageTest {
             b.refuses(far.and(x -> x.day(1)), x -> x.lay(0, set), STATE);
             b.answers(far.and(x -> x.day(2)), x -> x.lay(0, set), seconds[i]);
         }
+        b.refuses(x -> x.choir(4, 0, 1, 1), x -> x.lay(0, 1), STATE);
     }
 
     private static void layNotFree() {
@@ -386,8 +395,25 @@ public final class BoundsOfStageTest {
         laid(stage(4, 20, 5, 10), 10, 10, 0);
         laid(stage(4, 20, 10, 5), 10, 0, 10);
         laid(stage(4, 60, 4, 3, 2, 1), 20, 6, 3, 1, 0);
+        layEachLine();
         Festival.Scene other = stage(4, 20, 9, 1, 20).and(stand(2, 3, 0));
         b.then(other, x -> x.lay(0, 3), 11, x -> x.clear(), 31);
+    }
+
+    /** On a wide stage all go off left, least with the smaller ones first: each line of four is once the best. */
+    private static void layEachLine() {
+        for (int line = 0; line < 256; line++) {
+            int[] rank = {line & 3, line >> 2 & 3, line >> 4 & 3, line >> 6};
+            int[] places = new int[4];
+            int ranks = 0;
+            for (int i = 0; i < 4; i++) {
+                ranks |= 1 << rank[i];
+                places[i] = rank[i] * (rank[i] + 1) / 2;
+            }
+            if (ranks == 15) {
+                laid(stage(4, 60, rank[0] + 1, rank[1] + 1, rank[2] + 1, rank[3] + 1), 20, places);
+            }
+        }
     }
 
     private static void layLesserFirst() {
