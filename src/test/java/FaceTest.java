@@ -112,7 +112,22 @@ public final class FaceTest {
             want(imports.group(1).equals("java.util.Arrays"), "import " + imports.group(1));
         }
         want(!Pattern.compile("(?m)^package").matcher(bare).find(), "no package");
+        library(bare);
         shortMethods(bare);
+    }
+
+    private static void library(String bare) {
+        Set<String> allowed = Set.of("Math.min", "Math.max", "Math.floorDiv", "Integer.bitCount",
+                "Arrays.fill", "System.arraycopy");
+        // A name that begins with a great letter and is no constant is a class, the library's or our own.
+        Matcher call = Pattern.compile("\\b([A-Z][a-z]\\w*)\\s*\\.\\s*(\\w+)").matcher(bare);
+        while (call.find()) {
+            want(allowed.contains(call.group(1) + "." + call.group(2)), "of the library: " + call.group());
+        }
+        Matcher list = Pattern.compile("\\(([^()]*)\\) \\{").matcher(bare);
+        while (list.find()) {
+            want(list.group(1).split(",").length <= 7, "seven parameters at most: " + list.group(1));
+        }
     }
 
     private static void shortMethods(String bare) {
